@@ -90,16 +90,13 @@ public final class NeverBelow {
         }
         Sheet row = sheetRow[k];
         if (row != null && row.lane != lane) {
-            faulted(FAULT_CAST);
-            return LOST;
+            return lostBy(FAULT_CAST);
         }
         if (row == null) {
-            faulted(FAULT_NULL);
-            return LOST;
+            return lostBy(FAULT_NULL);
         }
         if (!row.has(i)) {
-            faulted(FAULT_INDEX);
-            return LOST;
+            return lostBy(FAULT_INDEX);
         }
         return row.cells[i];
     }
@@ -476,6 +473,11 @@ public final class NeverBelow {
     private int faulted(int which) {
         latestFault = which;
         return -10 - which;
+    }
+
+    private long lostBy(int which) {
+        latestFault = which;
+        return LOST;
     }
 
     private static boolean isSheet(int k) {

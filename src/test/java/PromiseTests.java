@@ -452,10 +452,17 @@ public final class PromiseTests {
         make(x, 0, -1, 0, -1);
         due("bound(2, 0, 0)", x.bound(2, 0, 0), -2 * ONE);
         due("bound(2, 0, 1)", x.bound(2, 0, 1), ONE);
+        x.box(0, 512, -256, 256);
+        make(x, 0, 0, 1, 1);                  // x + yy: CORNER 1 alone is the least
+        due("bound(3, 1, 0)", x.bound(3, 1, 0), -ONE);
+        due("bound(3, 1, 1)", x.bound(3, 1, 1), 3 * ONE);
+        make(x, 0, 0, -1, -1);                // -x - yy: CORNER 1 alone is the greatest
+        due("bound(4, 1, 1)", x.bound(4, 1, 1), ONE);
+        due("bound(4, 1, 0)", x.bound(4, 1, 0), -3 * ONE);
         due("bound(0, 0, 2)", x.bound(0, 0, 2), LOST);
         due("bound(0, 0, -1)", x.bound(0, 0, -1), LOST);
-        due("bound(3, 0, 0)", x.bound(3, 0, 0), LOST);
-        due("bound(0, 1, 0)", x.bound(0, 1, 0), LOST);
+        due("bound(5, 0, 0)", x.bound(5, 0, 0), LOST);
+        due("bound(0, 2, 0)", x.bound(0, 2, 0), LOST);
     }
 
     private static void promise17() {
@@ -685,6 +692,11 @@ public final class PromiseTests {
             least = Math.min(least, x.bound(3, x.told(1) - 1, 0));
         }
         due("least() of all PARTS", x.least(), least);
+        x.parts(0, 0);
+        x.cover(1);
+        make(x, 1, 0, 0, -1);                 // 1 - x, on the left half alone
+        x.parts(4, x.box(-256, 0, -256, 256));
+        due("least(): nothing of the PARTS ahead", x.least(), ONE);
     }
 
     private static void promise24() {
@@ -824,6 +836,8 @@ public final class PromiseTests {
         dueNumbers(x, 1, 1, 4, 2, 2, 2, 6, 3, -256, 512);
         due("span(0, 1, 1, -256, 512)", x.span(0, 1, 1, -256, 512), NONE);
         due("span(0, 3, 2, -256, 512): m by n", x.span(0, 3, 2, -256, 512), STATE);
+        due("span(0, 1, 2, 0, 512): m by n alone", x.span(0, 1, 2, 0, 512), STATE);
+        due("span(0, 1, 1, 0, 128): of x alone", x.span(0, 1, 1, 0, 128), STATE);
         due("span(0, 2, 1, -256, 511): of x", x.span(0, 2, 1, -256, 511), STATE);
         due("span(0, 1, 1, -128, 384): of 1", x.span(0, 1, 1, -128, 384), STATE);
         int half = make(x, 1, 0, 0, 0, 0, 0, -4);   // 4 (x + 1/2)(1/2 - x) = 1 - 4xx
@@ -1060,6 +1074,9 @@ public final class PromiseTests {
         x.box(-256, 256, -256, 256);
         x.box(-512, 512, -512, 512);
         x.corners(1, 0);
+        x.bound(0, 1, 0);
+        due("check(0)", x.check(0), 1);
+        x.corners(1, 1);
         due("check(0)", x.check(0), 1);
         for (int k = 0; k < 9; k++) {
             dueForged(x, 0, k, x.number(0, k) + 1, -20 - k);
