@@ -1,4 +1,4 @@
-/** The boundary cases that the document names of BOXES, CORNERS and PARTS: promises 13 to 23, and chapter 2 of its terms. */
+/** The boundary cases that the document names of BOXES and PARTS: promises 13 to 23, and chapter 2 of its terms. */
 public final class BoxBoundaryTests implements Words {
     private static final int[] OWN = {0, 2, 6, 8};
     private static final int[] INNER = {1, 3, 4, 5, 7};
@@ -318,11 +318,18 @@ public final class BoxBoundaryTests implements Words {
 
     @Says("Promise 18: UNKNOWN; what PARTS there are stay")
     static void partsRefused() {
-        Bench b = withParts(-8, 8, -8, 8);
-        b.ask("cover", 3);
-        b.refused(UNKNOWN, "parts", 1, 0);
-        b.refused(UNKNOWN, "parts", 0, 1);
-        b.refused(UNKNOWN, "parts", -1, -1);
+        Bench b = withPartsOf(new long[] {1, 0, 0, 0, 0, 0, 4}, -256, 256, -256, 256);
+        b.lay(-1);
+        b.ask("box", 1, 2, 3, 4);
+        for (int step = 0; step < 4; step++) {
+            for (int other : new int[] {LOW, -1, 2, HIGH}) {
+                b.refused(UNKNOWN, "parts", other, 1);
+                b.refused(UNKNOWN, "parts", 1, other);
+            }
+            b.ask("cover", 1);
+        }
+        b.due(0, "proved");
+        b.dueRow("proof", new long[] {0}, 2, 0, 8, 2, 0);
     }
 
     @Says("Terms 2: all its CORNERS are 0 or more: it is SHOWN")
@@ -357,8 +364,7 @@ public final class BoxBoundaryTests implements Words {
     @Says("Terms 2: one of CORNERS 0, 2, 6, 8 is below 0: it is BELOW there (the first of these)")
     static void ownCornersAreBelow() {
         for (int low = 1; low < 16; low++) {
-            Bench b = new Bench();
-            b.ask("box", 0, 256, 0, 256);
+            Bench b = withUnitBox();
             long[] nine = Bench.nineBut(4, -1, -1);
             int first = -1;
             for (int own = 3; own >= 0; own--) {
@@ -380,13 +386,13 @@ public final class BoxBoundaryTests implements Words {
     static void smallestBelow() {
         Bench b = new Bench();
         b.layTerm(8, 1);
-        b.ask("box", -1, 1, 1, 2);
+        b.ask("box", -1, 1, 0, 1);
         b.ask("parts", 0, 0);
-        b.due(-16, "least");
+        b.due(-4, "least");
         b.due(3, "cover", 500);
         dueCounts(b, 2, 0, 2, 0, 0);
-        duePart(b, 0, -1, 0, 1, 2, 1);
-        duePart(b, 1, 0, 1, 1, 2, 1);
+        duePart(b, 0, -1, 0, 0, 1, 1);
+        duePart(b, 1, 0, 1, 0, 1, 1);
         b.layTerm(8, -1);
         b.ask("box", 0, 1, 0, 1);
         b.ask("parts", 1, 1);
@@ -648,10 +654,10 @@ public final class BoxBoundaryTests implements Words {
         for (int own = 0; own < 4; own++) {
             int x = own / 2 == 0 ? 1 : -1;
             int y = own % 2 == 0 ? 1 : -1;
-            // 5 + 4 x + 4 y is below 0 at one corner of -1 .. 1 alone
-            Bench b = withPartsOf(new long[] {5, 4 * y, 0, 4 * x}, -256, 256, -256, 256);
+            // 5 + 4 x + 2 y is below 0 at one corner alone, x from -1 to 1, y from -2 to 2
+            Bench b = withPartsOf(new long[] {5, 2 * y, 0, 4 * x}, -256, 256, -512, 512);
             b.ask("cover", 1);
-            b.dueRow("where", NO_MORE, -256 * x, -256 * y);
+            b.dueRow("where", NO_MORE, -256 * x, -512 * y);
         }
     }
 

@@ -1,6 +1,6 @@
 import java.util.Arrays;
 
-/** The boundary cases that the document names of THE FORM and of PROOFS: promises 24 to 38, chapters 3 and 4 of its terms. */
+/** The boundary cases that the document names of THE FORM and PROOFS: promises 24 to 38, chapters 3, 4 of its terms. */
 public final class ProofBoundaryTests implements Words {
     private static final int[] OTHER_TERMS = {5, 7, 8};
     private static final int[] ALL_BUT_NOUGHT_TO_TWO = {LOW, -1, 3, HIGH};
@@ -195,6 +195,32 @@ public final class ProofBoundaryTests implements Words {
         }
     }
 
+    /** Of calls that take a PROOF alone: none, four, as many as there may be. */
+    private static void dueUnknown(String name) {
+        new Bench().refused(UNKNOWN, name, 0);
+        Bench four = withAllKinds();
+        Bench full = full();
+        for (int q : new int[] {LOW, -1, 4, HIGH}) four.refused(UNKNOWN, name, q);
+        for (int q : new int[] {LOW, -1, 40, HIGH}) full.refused(UNKNOWN, name, q);
+        Sentences.holds(name + "(3) is known", four.ask(name, 3) > 0 ? 1 : 0, 1);
+        Sentences.holds(name + "(39) is known", full.ask(name, 39) > 0 ? 1 : 0, 1);
+    }
+
+    @Says("Promise 32: UNKNOWN")
+    static void checkRefuses() {
+        dueUnknown("check");
+    }
+
+    @Says("Promise 34: UNKNOWN")
+    static void tellRefuses() {
+        dueUnknown("tell");
+    }
+
+    @Says("Promise 35: UNKNOWN")
+    static void costRefuses() {
+        dueUnknown("cost");
+    }
+
     @Says("Promise 26: NONE: one is below 0")
     static void cornersRefusesBelow() {
         for (int k = 0; k < 9; k++) {
@@ -206,6 +232,17 @@ public final class ProofBoundaryTests implements Words {
             for (int i = 0; i < 9; i++) b.due(i == k ? 0 : ONE, "number", 0, i);
             b.refused(LOST, "number", 0, 9);
         }
+    }
+
+    @Says("Promise 26: NONE: one is just below 0")
+    static void cornersRefusesJustBelow() {
+        Bench b = new Bench();
+        b.layTerm(8, 1);
+        b.ask("box", -1, 1, 0, 1);
+        b.ask("box", 0, 1, 0, 1);
+        b.due(-4, "bound", 0, 0, 0);
+        b.refused(NONE, "corners", 0, 0);
+        b.due(0, "corners", 0, 1);
     }
 
     @Says("Promise 26: a PROOF by CORNERS that are all 0")
@@ -290,6 +327,29 @@ public final class ProofBoundaryTests implements Words {
         b.ask("forge", 4, 0, 9);
         b.due(0, "partly", 0, 0);
         b.due(0, "side", 0, 0);
+    }
+
+    @Says("Terms 4: of a POLYNOMIAL, on a BOX: the first and the last of thirty")
+    static void proofsKeepTheirOwn() {
+        Bench b = with(2);
+        b.fillPolynomials(29);
+        b.lay(0, 1);
+        b.ask("box", 0, 256, 0, 256);
+        b.fillBoxes(29);
+        b.ask("box", 256, 512, 256, 512);
+        for (int last = 0; last < 30; last += 29) {
+            b.ask("corners", last, last);
+            b.ask("parts", last, last);
+            b.ask("cover", 1);
+            b.ask("proved");
+            b.ask("squares", 0);
+        }
+        dueNumbers(b, 3, ONE, 3 * ONE / 2, 2 * ONE, ONE, 3 * ONE / 2, 2 * ONE, ONE, 3 * ONE / 2, 2 * ONE);
+        for (int q = 0; q < 6; q++) b.due(1, "check", q);
+        b.dueRow("proof", new long[] {0}, CORNERS, 0, 9, 0, 0);
+        b.dueRow("proof", new long[] {1}, PARTS, 0, 4, 1, 0);
+        b.dueRow("proof", new long[] {3}, CORNERS, 29, 9, 0, 29);
+        b.dueRow("proof", new long[] {4}, PARTS, 29, 4, 1, 29);
     }
 
     // ---- span
@@ -674,7 +734,7 @@ public final class ProofBoundaryTests implements Words {
 
     @Says("Terms 4: exactly the sum: what would wrap around in numbers of 64 or 128 bits")
     static void checkDoesNotWrap() {
-        // the last SQUARE is 1 by 2 to the 51st of 2 to the 30th: 2 to the k times it is lost to what wraps
+        // the last SQUARE is 1 by 2 to the 51st of 2 to the 30th: what is 2 to the k times too much wraps away
         Bench b = with(512, 0, 512, 0, 0, 0, 512);
         b.ask("squares", 0);
         b.due(1L << 51, "number", 0, 11);
@@ -682,16 +742,22 @@ public final class ProofBoundaryTests implements Words {
         b.due(1, "check", 0);
         for (int k = 0; k < 30; k++) dueForged(b, 0, 10, 1 + (1L << k), -20);
         b.due(1, "check", 0);
-        // the same, and x (1 - x)
-        Bench c = with(512, 0, 512, 1, 0, 0, 511);
-        c.ask("span", 0, 1, 1, 0, 256);
-        c.due(1, "check", 0);
-        for (int n = 0; n < 30; n += 29) {
-            c.ask("forge", 0, 15, 1 << n);
-            c.ask("forge", 0, 16, 1 << n);
-            c.due(1, "check", 0);
-            for (int k = 0; k < 30; k++) dueForged(c, 0, 10, 1 + (1L << k), -20);
-        }
+    }
+
+    @Says("Terms 4: exactly the sum: what would wrap around in numbers of 192 bits")
+    static void checkDoesNotWrapInSpans() {
+        // the same SQUARES, and x (1 - x)
+        Bench b = with(512, 0, 512, 1, 0, 0, 511);
+        b.ask("span", 0, 1, 1, 0, 256);
+        b.due(1, "check", 0);
+        long great = 1L << 29;
+        b.ask("forge", 0, 15, great);
+        b.ask("forge", 0, 16, great);
+        b.ask("forge", 0, 0, 1L << 18);
+        b.ask("forge", 0, 1, great);
+        b.due(1, "check", 0);
+        for (int k = 0; k < 30; k++) dueForged(b, 0, 10, 1 + (1L << k), -20);
+        b.due(1, "check", 0);
     }
 
     @Says("Promise 32: of CORNERS the first number")
@@ -773,7 +839,7 @@ public final class ProofBoundaryTests implements Words {
         b.refused(UNKNOWN, "as", 4, 0);
     }
 
-    @Says("Terms 4: TELLING of each kind, the bodies in TRACE")
+    @Says("Promise 34: TELLING of each kind, the bodies in TRACE")
     static void tellsByBodies() {
         long[] answers = {10, 18, 8, 18};
         int[][] bodies = {{1}, {3, 1}, {4, 3, 1}, {2, 1}};
@@ -786,7 +852,7 @@ public final class ProofBoundaryTests implements Words {
         }
     }
 
-    @Says("Terms 4: COSTS of each kind, the bodies in TRACE")
+    @Says("Promise 35: COSTS of each kind, the bodies in TRACE")
     static void costsByBodies() {
         long[] answers = {110, 7, 7, 109};
         int[] bodies = {5, 6, 6, 5};
@@ -891,6 +957,21 @@ public final class ProofBoundaryTests implements Words {
         b.fillBoxes(30);
         b.fillProofs(40, 0);
         b.dueRow("told", NO_MORE, 30, 30, 40);
+    }
+
+    @Says("What it is: at most 512 calls: the last of them")
+    static void theLastCallAnswers() {
+        Bench b = withAllKinds();
+        b.fillBoxes(30);
+        b.fillProofs(40, 0);
+        int trace = 0;
+        while (b.many() < 510) {
+            b.ask("cost", 39);
+            trace = 31 * trace + 5;
+        }
+        b.due(1, "check", 39);
+        b.due(trace, "trace");
+        Sentences.holds("calls", b.many(), 512);
     }
 
     // ---- numbers that are far off

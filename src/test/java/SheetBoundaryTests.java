@@ -1,4 +1,4 @@
-/** The boundary cases that the document names of SHEETS and POLYNOMIALS: promises 1 to 12, and chapter 1 of its terms. */
+/** The boundary cases that the document names of SHEETS and POLYNOMIALS: promises 1 to 12, chapter 1 of its terms. */
 public final class SheetBoundaryTests implements Words {
     private static final int[] NO_SHEETS = {LOW, -1, 4, HIGH};
     private static final int[] NO_LANES = {LOW, -1, 3, HIGH};
@@ -806,7 +806,7 @@ public final class SheetBoundaryTests implements Words {
         b.due(-8 * one, "value", 0, 0, -2048);
     }
 
-    @Says("Promise 11: told in 256ths, times 4294967296: of each TERM the least and the greatest")
+    @Says("Promise 11: told in 256ths, times 4294967296: of each TERM (3 i + j) the least and the greatest")
     static void valueOfEachTerm() {
         for (int t = 0; t < 9; t++) {
             Bench b = new Bench();
@@ -818,6 +818,7 @@ public final class SheetBoundaryTests implements Words {
             b.due(small, "value", 0, 1, 1);
             b.due(sign * small, "value", 0, -1, -1);
             b.due(t == 0 ? small : 0, "value", 0, 0, 0);
+            b.due(new long[] {1, 3, 9}[t % 3] * (1 << t / 3) * 4294967296L, "value", 0, 512, 768);
             b.due(-great, "value", 1, 2048, 2048);
             b.due(-sign * great, "value", 1, -2048, -2048);
         }

@@ -65,6 +65,11 @@ final class Bench implements Words {
         return METHODS.get(name).getReturnType() == long.class;
     }
 
+    /** How many calls were made. */
+    int many() {
+        return calls.size();
+    }
+
     long ask(String name, long... given) {
         Call call = new Call(name, given);
         calls.add(call);
