@@ -991,19 +991,23 @@ public final class ProofBoundaryTests implements Words {
             for (int i = 0; i < Bench.takes(name); i++) {
                 for (int far : new int[] {LOW, HIGH}) {
                     boolean isAny = name.equals("put") && i == 2;
-                    if (!isAny) dueRefused(withAllKinds(), name, i, far);
-                    if (!isAny) dueRefused(full(), name, i, far);
+                    if (!isAny) dueRefused(withAllKinds(), withAllKinds(), name, i, far);
+                    if (!isAny) dueRefused(full(), full(), name, i, far);
                 }
             }
         }
     }
 
-    private static void dueRefused(Bench b, String name, int i, int far) {
+    /** Which refusal or FAULT it is, is asked of another object in the same state. */
+    private static void dueRefused(Bench b, Bench alike, String name, int i, int far) {
         long[] given = new long[Bench.takes(name)];
         given[i] = far;
-        long answer = b.ask(name, given);
+        long answer = alike.ask(name, given);
+        int fault = (int) alike.ask("fault");
         boolean isRefused = Bench.answersLong(name) ? answer == LOST : answer <= UNKNOWN && answer >= -10 - SIZE;
         Sentences.holds(name + Arrays.toString(given) + " is refused", isRefused ? 1 : 0, 1);
+        if (fault == 0) b.refused(answer, name, given);
+        else b.faulted(fault, name, given);
     }
 
     public static void main(String[] args) throws IllegalAccessException {
