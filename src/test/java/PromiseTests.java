@@ -64,14 +64,14 @@ public final class PromiseTests {
     }
 
     private static void fillPolynomials(NeverBelow x) {
-        while (x.told(0) < 30) {
+        for (int k = 0; k < 30 && x.told(0) < 30; k++) {
             x.sheet(3, 0, 0);
             x.poly(3, 0, 0, 0);
         }
     }
 
     private static void fillProofs(NeverBelow x, int easy) {
-        while (x.told(2) < 40) {
+        for (int k = 0; k < 40 && x.told(2) < 40; k++) {
             x.squares(easy);
         }
     }
@@ -482,7 +482,7 @@ public final class PromiseTests {
         due("cut(0, -1)", x.cut(0, -1), OUTSIDE);
         due("cut(7, 2)", x.cut(7, 2), UNKNOWN);
         due("cut(-1, 0)", x.cut(-1, 0), UNKNOWN);
-        while (x.told(1) < 29) {
+        for (int k = 0; k < 29 && x.told(1) < 29; k++) {
             x.box(0, 1, 0, 1);
         }
         due("cut(0, 0): one more alone", x.cut(0, 0), FULL);
