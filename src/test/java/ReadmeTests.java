@@ -19,7 +19,7 @@ public final class ReadmeTests implements Words {
     private static final Pattern PROMISE = Pattern.compile("(?m)^`(?:int|long) (\\w+)\\(([^)]*)\\)`: (.*)$");
     private static final Pattern REFUSAL =
         Pattern.compile("\\b(UNKNOWN|OUTSIDE|STATE|FULL|NONE|LOST|NULL|CAST|INDEX|SIZE)\\b");
-    private static final String[] REFUSAL_NAMES = {"UNKNOWN", "OUTSIDE", "STATE", "FULL", "NONE"};
+    private static final String[] REFUSAL_NAMES = {"UNKNOWN", "OUTSIDE", "STATE", "FULL"};
     private static final String[] FAULT_NAMES = {"NULL", "CAST", "INDEX", "SIZE"};
 
     private ReadmeTests() {
@@ -104,6 +104,7 @@ public final class ReadmeTests implements Words {
         for (String name : REFUSAL_NAMES) {
             mustHold(name, README.contains("\n| " + answerOf(name) + " | `" + name + "` | "));
         }
+        mustHold("NONE", README.contains("\n`NONE` (" + answerOf("NONE") + ") "));
         Sentences.holds("LOST, the least long", answerOf("LOST"), Long.MIN_VALUE);
     }
 
